@@ -48,7 +48,7 @@ public final class TownKnows {
         }
         sight = new Sight();
         draft = new Draft();
-        school = new School(sight);
+        school = new School();
     }
 
     // ---- the town
@@ -597,10 +597,6 @@ public final class TownKnows {
             return within(v, 0, MOST_FACTS - 1);
         }
 
-        static boolean isOfPerson(int v) {
-            return within(v, KNOWS, EACH - 1);
-        }
-
         static boolean isOfKind(int sign, int kind) {
             switch (kind) {
                 case 0:
@@ -615,10 +611,10 @@ public final class TownKnows {
         }
 
         static int takes(int sign) {
-            if (isFactSign(sign)) {
+            if (sign < NOT) {
                 return 0;
             }
-            return within(sign, AND, ONCE) ? 2 : 1;
+            return sign > NOT && sign < KNOWS ? 2 : 1;
         }
 
         static int personOf(int sign) {
@@ -660,10 +656,10 @@ public final class TownKnows {
         }
 
         private static boolean tellsOfMissing(int sign, int persons, int facts) {
-            if (Signs.isFactSign(sign)) {
+            if (sign < Signs.NOT) {
                 return sign >= facts;
             }
-            return Signs.isOfPerson(sign) && Signs.personOf(sign) >= persons;
+            return sign >= Signs.KNOWS && sign < Signs.EACH && Signs.personOf(sign) >= persons;
         }
 
         /** Where the sentence that stands behind the sign at a place begins. */
@@ -981,7 +977,7 @@ public final class TownKnows {
         private long ofPerson(int sign, long part, long set, int depth) {
             int person = Signs.personOf(sign);
             if (sign < Signs.THINKS) {
-                return knows(person, part, set);
+                return set & ~touched(1 << person, set & ~part);
             }
             if (sign < Signs.BELIEVES) {
                 return set & touched(1 << person, part);
@@ -1011,14 +1007,12 @@ public final class TownKnows {
         private long believes(int person, long part, long set) {
             long result = 0;
             long left = set;
-            for (int w = 0; w < worlds.count && left != 0; w++) {
-                if (isIn(w, left)) {
-                    long cell = cellOf(person, w) & set;
-                    if ((remaining(cell, 0) & ~part) == 0) {
-                        result |= cell;
-                    }
-                    left &= ~cell;
+            for (int i = 0; i < MOST_WORLDS && left != 0; i++) {
+                long cell = cellOf(person, least(left)) & set;
+                if ((remaining(cell, 0) & ~part) == 0) {
+                    result |= cell;
                 }
+                left &= ~cell;
             }
             return result;
         }
@@ -1026,11 +1020,12 @@ public final class TownKnows {
         /** The worlds that are, for some member, in one cell with one of part. */
         private long touched(int members, long part) {
             long near = 0;
-            for (int w = 0; w < worlds.count; w++) {
-                for (int person = 0; person < worlds.persons && isIn(w, part); person++) {
-                    if (isIn(person, members)) {
-                        near |= cellOf(person, w);
-                    }
+            for (int person = 0; person < worlds.persons; person++) {
+                long left = isIn(person, members) ? part : 0;
+                for (int i = 0; i < MOST_WORLDS && left != 0; i++) {
+                    long cell = cellOf(person, least(left));
+                    near |= cell;
+                    left &= ~cell;
                 }
             }
             return near;
@@ -1039,14 +1034,14 @@ public final class TownKnows {
         /** The worlds that are, for all members at once, in one cell with one of part. */
         private long shared(int members, long part) {
             long near = 0;
-            for (int w = 0; w < worlds.count; w++) {
-                if (isIn(w, part)) {
-                    long cell = worlds.every();
-                    for (int person = 0; person < worlds.persons; person++) {
-                        cell &= isIn(person, members) ? cellOf(person, w) : cell;
-                    }
-                    near |= cell;
+            long left = part;
+            for (int i = 0; i < MOST_WORLDS && left != 0; i++) {
+                long cell = worlds.every();
+                for (int person = 0; person < worlds.persons; person++) {
+                    cell &= isIn(person, members) ? cellOf(person, least(left)) : cell;
                 }
+                near |= cell;
+                left &= ~cell;
             }
             return near;
         }
@@ -1074,10 +1069,12 @@ public final class TownKnows {
         }
 
         private long cellOf(int person, int w) {
-            long cell = worlds.cell(person, w);
-            for (int fact = 0; fact < worlds.facts && taught[person] != 0; fact++) {
-                if (isIn(fact, taught[person])) {
-                    cell &= isIn(w, worlds.so[fact]) ? worlds.so[fact] : ~worlds.so[fact];
+            long cell = worlds.cells[person * worlds.count + w];
+            int partings = taught[person];
+            for (int fact = 0; fact < worlds.facts && partings != 0; fact++) {
+                if ((partings >>> fact & 1) != 0) {
+                    long so = worlds.so[fact];
+                    cell &= (so >>> w & 1L) != 0 ? so : ~so;
                 }
             }
             return cell;
@@ -1088,32 +1085,34 @@ public final class TownKnows {
     private static final class School {
         private static final int LESSONS = MOST_PERSONS * MOST_FACTS;
 
-        private final Sight sight;
+        private final Sight sight = new Sight();
         private Town town;
         private Worlds worlds;
         int first;
         int second;
-
-        School(Sight sight) {
-            this.sight = sight;
-        }
 
         /** How many lessons (0 to 2), told then by first and second; -1 if there are none such. */
         int shortest(Row goal, Town at) {
             town = at;
             worlds = at.picture.worlds;
             sight.look(at.picture);
-            if (isReached(goal, worlds.every())) {
+            if (worlds.hasReal(sight.soIn(goal, worlds.every()))) {
                 return 0;
             }
-            for (first = 0; first < LESSONS; first++) {
-                if (isReached(goal, taughtFirst())) {
+            for (int one = 0; one < LESSONS; one++) {
+                if (worlds.hasReal(sight.soIn(goal, taughtFirst(one)))) {
+                    first = one;
                     return 1;
                 }
             }
-            for (first = 0; first < LESSONS; first++) {
-                for (second = 0; second < LESSONS; second++) {
-                    if (isReached(goal, taughtSet(second, taughtFirst()))) {
+            for (int one = 0; one < LESSONS; one++) {
+                long once = taughtFirst(one);
+                for (int two = 0; two < LESSONS && once != 0; two++) {
+                    sight.forgetLessons();
+                    sight.partBy(pupilOf(one), factOf(one));
+                    if (worlds.hasReal(sight.soIn(goal, taughtSet(two, once)))) {
+                        first = one;
+                        second = two;
                         return 2;
                     }
                 }
@@ -1121,19 +1120,23 @@ public final class TownKnows {
             return -1;
         }
 
-        private boolean isReached(Row goal, long set) {
-            return set != 0 && worlds.hasReal(sight.soIn(goal, set));
+        private static int pupilOf(int lesson) {
+            return lesson / MOST_FACTS;
         }
 
-        private long taughtFirst() {
+        private static int factOf(int lesson) {
+            return lesson % MOST_FACTS;
+        }
+
+        private long taughtFirst(int lesson) {
             sight.forgetLessons();
-            return taughtSet(first, worlds.every());
+            return taughtSet(lesson, worlds.every());
         }
 
         /** The worlds that stay behind a lesson; none if it can't be given. */
         private long taughtSet(int lesson, long set) {
-            int pupil = lesson / MOST_FACTS;
-            int fact = lesson % MOST_FACTS;
+            int pupil = pupilOf(lesson);
+            int fact = factOf(lesson);
             if (set == 0 || pupil >= worlds.persons || fact >= worlds.facts) {
                 return 0;
             }
