@@ -986,8 +986,9 @@ public final class TownKnows {
             return believes(person, part, set);
         }
 
+        /** Members that are not there count for nothing: only persons that are there are gone through. */
         private long ofGroup(int sign, long part, long set) {
-            int members = groups[Signs.groupOf(sign)] & ((1 << worlds.persons) - 1);
+            int members = groups[Signs.groupOf(sign)];
             long not = set & ~part;
             if (sign >= Signs.TOGETHER) {
                 return set & ~shared(members, not);

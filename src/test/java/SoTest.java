@@ -155,6 +155,10 @@ final class SoTest {
         Due.is("lie", town.lie(0, 0), 1);
         so(town, "that 1 knows it if it is so: believed that not", 0b1111, 0, 10, 28);
         so(town, "once it is cried, the claim leaves all", 0b1111, 0, 0, 28, 14);
+        Due.write(town, 0, 0, 1, 12, 21, 0, 11);
+        Due.is("lie", town.lie(0, 0), 2);
+        so(town, "that 1 knows one of them, and 0: so nowhere, not believed", 0, 0, 28);
+        so(town, "once one of them is cried, believed", 0b1111, 0, 1, 12, 0, 28, 14);
     }
 
     private static void findings() {
