@@ -12,10 +12,16 @@ final class Due {
 
     private static final int SHOWN = 20;
 
+    private static String sentence = "";
     private static int asked = 0;
     private static int wrong = 0;
 
     private Due() {
+    }
+
+    /** The document's words by which the next answers are due; shown with each that is wrong. */
+    static void says(String words) {
+        sentence = "\"" + words + "\": ";
     }
 
     static void is(String call, long got, long want) {
@@ -24,7 +30,7 @@ final class Due {
             wrong++;
         }
         if (got != want && wrong <= SHOWN) {
-            System.out.println(call + " answered " + got + ", due is " + want);
+            System.out.println(sentence + call + " answered " + got + ", due is " + want);
         }
     }
 
@@ -38,6 +44,12 @@ final class Due {
         for (int i = 0; i < signs.length; i++) {
             is("sign(" + s + ", " + signs[i] + ")", town.sign(s, signs[i]), i + 1);
         }
+    }
+
+    /** Numbers just outside of low to high, far outside, and such as lose their high bits in a narrower type. */
+    static int[] outside(int low, int high) {
+        return new int[] {low - 1, high + 1, low - 2, high + 2, low - 256, high + 256, low + 65536, low + (1 << 30),
+            Integer.MIN_VALUE + low + 1, Integer.MIN_VALUE, Integer.MAX_VALUE};
     }
 
     static void end(String test) {
