@@ -13,11 +13,13 @@ final class EdgeActTest {
         tellInEachStreet();
         tellByOneAlone();
         tellAsksNoOtherOath();
+        oathsAreOfFactsAlone();
         tellWhatIsNotSo();
         tellJustUntrue();
         tellWhereItIsKnownAlone();
         tellOthersOfTheStreet();
         tellOthersElsewhere();
+        tellByEachToEach();
         tellSixtyFour();
         tellBehindCut();
         openlyFindingsInOrder();
@@ -71,13 +73,23 @@ final class EdgeActTest {
 
     private static List<Integer> worlds(TownKnows town) {
         List<Integer> seen = new ArrayList<>();
+        int count = town.all(2);
+        int persons = town.all(0);
         seen.add(town.all(3));
-        for (int w = 0; w < town.all(2); w++) {
-            for (int p = -1; p < town.all(0); p++) {
+        for (int w = 0; w < count; w++) {
+            for (int p = -1; p < persons; p++) {
                 seen.add(town.world(w, p));
             }
         }
         return seen;
+    }
+
+    /** A look takes some 320 calls, so each is at a town of its own: an object has 512. */
+    private static List<Integer> crowdBehind(Twin.Steps more) {
+        TownKnows town = new TownKnows();
+        crowd(town);
+        more.on(town);
+        return worlds(town);
     }
 
     private static void cells(TownKnows town, String what, int person, int... least) {
@@ -246,6 +258,26 @@ final class EdgeActTest {
         Due.is("sign 13 is no fact 3", town.tell(0, 1, 0), 12);
     }
 
+    private static void oathsAreOfFactsAlone() {
+        Due.says("OATHS: sentences with a FACT (SIGN) in them");
+        for (int f = 0; f < 4; f++) {
+            for (int v = 10; v <= 40; v++) {
+                int other = (f + 1) % 4;
+                TownKnows town = new TownKnows();
+                town.begin(4, 4, 15);
+                town.swear(0, f);
+                boolean two = v >= 11 && v <= 14;
+                Rich.row(town, 0, other);
+                Rich.row(town, 0, two ? new int[] {other, v} : new int[] {v});
+                Rich.row(town, 1, f);
+                Rich.row(town, 1, two ? new int[] {other, v} : new int[] {v});
+                String what = "sign " + v + ", sworn on " + f;
+                Due.holds(what + ", not in it", town.tell(0, 1, 0) != Due.SWORN);
+                Due.is(what + ", in it", town.tell(0, 1, 1), Due.SWORN);
+            }
+        }
+    }
+
     private static void tellWhatIsNotSo() {
         Due.says("TELLS: whether a sentence is so; or KNOWS that it is not so");
         TownKnows town = new TownKnows();
@@ -327,30 +359,56 @@ final class EdgeActTest {
         cells(town, "1", 1, 0, 1, 0, 3, 0, 1, 0, 3);
     }
 
+    /** Whoever tells, is told, is in that street or elsewhere, and whichever street it is. */
+    private static void tellByEachToEach() {
+        Due.says("TELLS: a and b ..; others in that STREET ..; all others ..");
+        for (int place = 0; place < 64; place++) {
+            int a = place / 16;
+            int b = place / 4 % 4;
+            int c = place % 4;
+            int d = 6 - a - b - c;
+            if (a != b && a != c && b != c) {
+                for (int street = 0; street < 4; street++) {
+                    TownKnows town = new TownKnows();
+                    town.begin(4, 1, 1);
+                    town.see(a, 0);
+                    town.go(a, street);
+                    town.go(b, street);
+                    town.go(c, street);
+                    town.go(d, (street + 1 + place % 3) % 4);
+                    Due.write(town, 0, 0);
+                    Due.is(a + " tells " + b, town.tell(a, b, 0), 4);
+                    cells(town, "who tells", a, 0, 1, 2, 3);
+                    cells(town, "who is told", b, 0, 1, 0, 3);
+                    cells(town, "who is in the street", c, 0, 1, 0, 1);
+                    cells(town, "who is elsewhere", d, 0, 0, 0, 0);
+                }
+            }
+        }
+    }
+
     private static void tellSixtyFour() {
         Due.says("Promise 11: FULL: there would be more than 64 WORLDS behind CUT");
         TownKnows town = new TownKnows();
         crowd(town);
-        List<Integer> ahead = worlds(town);
         int findings = town.all(7);
         Due.is("there would be 65", town.tell(1, 0, 3), Due.FULL);
         Due.is("it is counted", town.all(7), findings + 1);
         Due.is("64 stay", town.all(2), 64);
-        Due.holds("all as it was", ahead.equals(worlds(town)));
         Due.is("the last world", town.world(63, 3) >= 0 ? 1 : 0, 1);
         Due.is("no world 64", town.world(64, 3), Due.BEYOND);
         Due.is("undo takes back the tell ahead of it", town.undo(), 11);
         Due.is("32", town.all(2), 32);
+        Due.holds("all as it was", crowdBehind(t -> { }).equals(crowdBehind(t -> t.tell(1, 0, 3))));
     }
 
     private static void tellBehindCut() {
         Due.says("Promise 11: FULL: .. behind CUT");
         TownKnows town = new TownKnows();
         crowd(town);
-        List<Integer> ahead = worlds(town);
         Due.is("told already: 128 ahead of CUT, 64 behind it", town.tell(0, 1, 2), 64);
-        Due.holds("all as it was", ahead.equals(worlds(town)));
         Due.is("that is an act", town.undo(), 11);
+        Due.holds("all as it was", crowdBehind(t -> { }).equals(crowdBehind(t -> t.tell(0, 1, 2))));
         town.begin(4, 4, 15);
         town.go(3, 1);
         town.see(0, 0);

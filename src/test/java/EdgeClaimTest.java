@@ -13,6 +13,8 @@ final class EdgeClaimTest {
         clashedOfLaterOnes();
         clashedOfTheRealCell();
         clashedBehindAnAct();
+        clashedInOneWorld();
+        clashedAsWorldsAreNow();
         swearFindings();
         swearEachOnce();
         swearAgain();
@@ -240,6 +242,36 @@ final class EdgeClaimTest {
         Due.is("it clashed", town.clashed(0, 1), 1);
         Due.is("1 believes it no more", town.holds(2), 0);
         Due.is("the claim stays", town.all(4), 1);
+    }
+
+    private static void clashedInOneWorld() {
+        Due.says("CLASHED: its WORLDS (CELL of THE REAL one)");
+        for (int real = 0; real < 2; real++) {
+            TownKnows town = new TownKnows();
+            town.begin(1, 1, real);
+            Due.write(town, 0, 0);
+            town.lie(0, 0);
+            Due.is("see", town.see(0, 0), 1);
+            Due.is("clashed if it is not so", town.clashed(0, 0), 1 - real);
+            Due.write(town, 1, 0, 28);
+            Due.is("believed if it is so", town.holds(1), real);
+        }
+    }
+
+    /** That 1 knows it is so nowhere at first; when 1 saw it there are as many worlds, but it is so at one. */
+    private static void clashedAsWorldsAreNow() {
+        Due.says("CLASHED: none of its WORLDS had it so");
+        TownKnows town = new TownKnows();
+        town.begin(2, 1, 1);
+        Due.write(town, 0, 0, 21);
+        town.lie(0, 0);
+        Due.is("so nowhere", town.clashed(0, 1), 1);
+        Due.is("for 0, too", town.clashed(0, 0), 1);
+        Due.is("1 sees it", town.see(1, 0), 2);
+        Due.is("so here", town.clashed(0, 1), 0);
+        Due.is("0 holds that possible", town.clashed(0, 0), 0);
+        Due.is("undo", town.undo(), 5);
+        Due.is("so nowhere", town.clashed(0, 1), 1);
     }
 
     private static void swearFindings() {

@@ -16,6 +16,9 @@ final class EdgeLessonTest {
         lessonsByTheLeastOther();
         lessonsInItsStreet();
         lessonsBehindALesson();
+        lessonsOfTheFirstNumber();
+        lessonsToNobody();
+        lessonsOfSixtyFourWorlds();
         lessonsAskNoOaths();
         lessonsDoNoCut();
         sixMarks();
@@ -270,6 +273,87 @@ final class EdgeLessonTest {
         Due.is("two", town.lessons(1), 2);
         Due.is("0 of it", town.lesson(1, 0), 0);
         Due.is("1 of it, by 0, which knows now", town.lesson(1, 1), 4);
+    }
+
+    /** 1 knows that not both are so; once it is told of fact 1 it knows whether fact 0, and tells that 0. */
+    private static void lessonsOfTheFirstNumber() {
+        Due.says("of several the first, by 4 times the PERSON and the FACT");
+        TownKnows town = new TownKnows();
+        town.begin(3, 2, 2);
+        town.see(0, 0);
+        town.see(0, 1);
+        Due.write(town, 0, 0, 1, 11);
+        Due.is("0 tells 1 before 2", town.tell(0, 1, 0), 4);
+        Due.write(town, 1, 1, 22, 21);
+        Due.is("1 knows that 2 knows fact 1", town.lessons(1), 2);
+        Due.is("1 of fact 1", town.lesson(1, 0), 5);
+        Due.is("0 of fact 0, by 1: all see that 1 knows whether", town.lesson(1, 1), 0);
+        town.begin(3, 2, 3);
+        town.see(0, 0);
+        town.see(0, 1);
+        Due.write(town, 0, 0, 1, 13);
+        Due.is("0 tells 1 whether, if 0, then 1", town.tell(0, 1, 0), 4);
+        Due.write(town, 1, 0, 21, 22);
+        Due.is("2 knows that 1 knows fact 0", town.lessons(1), 2);
+        Due.is("1 of fact 0", town.lesson(1, 0), 4);
+        Due.is("0 of fact 1, by 1", town.lesson(1, 1), 1);
+    }
+
+    /** 0 knows whether fact 1 where fact 0 is so alone: if all saw it tell that anyone, they would know fact 0. */
+    private static void lessonsToNobody() {
+        Due.says("LESSONS: a PERSON is told OPENLY whether a FACT is so");
+        for (int n = 3; n <= 4; n++) {
+            TownKnows town = new TownKnows();
+            town.begin(n, 2, 3);
+            town.see(0, 0);
+            town.see(1, 0);
+            town.see(1, 1);
+            Due.write(town, 0, 0, 1, 11);
+            Due.is("openly", town.openly(1, 0, 0), 4);
+            town.go(1, 1);
+            town.go(2, 2);
+            Due.write(town, 1, 0, 22);
+            if (n == 4) {
+                Due.is("3 is told, and 2 sees that", town.lessons(1), 1);
+                Due.is("3 of fact 1", town.lesson(1, 0), 13);
+                town.go(3, 3);
+            }
+            Due.is("nobody is there to be told", town.lessons(1), Due.NONE);
+        }
+        for (int real = 0; real < 2; real++) {
+            TownKnows town = new TownKnows();
+            town.begin(1, 1, real);
+            Due.write(town, 0, 0, 20, 0, 10, 20, 12);
+            Due.is("0 is alone", town.lessons(0), Due.NONE);
+            town.begin(2, 1, real);
+            Due.is("1 does not know", town.lessons(0), Due.NONE);
+            town.see(1, 0);
+            Due.is("1 knows", town.lessons(0), 1);
+        }
+    }
+
+    private static void lessonsOfSixtyFourWorlds() {
+        Due.says("Terms 1: WORLDS (at most 64); LESSONS");
+        TownKnows town = new TownKnows();
+        town.begin(4, 3, 7);
+        town.go(2, 1);
+        town.go(3, 2);
+        for (int f = 0; f < 3; f++) {
+            town.see(0, f);
+            Due.write(town, f, f);
+        }
+        for (int f = 0; f < 3; f++) {
+            Due.is("tell", town.tell(0, 1, f), 16 << f);
+        }
+        Due.write(town, 3, 0, 22, 1, 22, 11);
+        Due.is("2 is alone", town.lessons(3), Due.NONE);
+        town.go(2, 0);
+        Due.is("two, no world goes by them", town.lessons(3), 2);
+        Due.is("2 of 0", town.lesson(3, 0), 8);
+        Due.is("2 of 1", town.lesson(3, 1), 9);
+        Due.write(town, 3, 2, 22);
+        Due.is("one", town.lessons(3), 1);
+        Due.is("2 of 2", town.lesson(3, 0), 10);
     }
 
     private static void lessonsAskNoOaths() {

@@ -28,6 +28,8 @@ final class EdgeSoTest {
         believesWhenAllClash();
         believesTheLatestFirst();
         believesWithinTheSet();
+        sixtyFourWorlds();
+        sixtyFourWorldsAndClaims();
         Due.end("EdgeSoTest");
     }
 
@@ -439,5 +441,85 @@ final class EdgeSoTest {
         Due.is("lie: that 0 knows 1", town.lie(0, 0), 1);
         so(town, "so nowhere: 0 is believed as ahead of it", 0b1111, 0, 28);
         so(town, "once 1 is cried it is so at all", 0b1111, 1, 1, 20, 0, 11, 28, 14);
+    }
+
+    /** 0 knows all facts and told 1 each behind a hand, so it tells 64 worlds apart; 2 and 3 none. */
+    private static TownKnows crowd() {
+        TownKnows town = new TownKnows();
+        town.begin(4, 3, 7);
+        town.go(2, 1);
+        town.go(3, 2);
+        for (int f = 0; f < 3; f++) {
+            town.see(0, f);
+            Due.write(town, f, f);
+        }
+        for (int f = 0; f < 3; f++) {
+            Due.is("tell", town.tell(0, 1, f), 16 << f);
+        }
+        return town;
+    }
+
+    private static void many(TownKnows town, String what, int due, int... signs) {
+        town.blank(5);
+        Rich.row(town, 5, signs);
+        Due.is(what, town.many(5), due);
+    }
+
+    private static void sixtyFourWorlds() {
+        Due.says("Terms 1: WORLDS (at most 64); Terms 2: so AT a WORLD");
+        TownKnows town = crowd();
+        Due.is("the real one", town.all(3), 63);
+        for (int w = 0; w < 64; w++) {
+            Due.is("0 tells all apart", town.world(w, 0), w);
+            Due.is("3 none", town.world(w, 3), 0);
+        }
+        many(town, "a fact", 32, 2);
+        many(town, "not a fact", 32, 2, 10);
+        many(town, "always", 64, 0, 0, 13);
+        many(town, "never", 0, 0, 0, 13, 10);
+        for (int p = 0; p < 4; p++) {
+            many(town, p + " knows what is always so", 64, 0, 0, 13, 20 + p);
+            many(town, p + " knows what is never so", 0, 0, 0, 13, 10, 20 + p);
+            many(town, p + " thinks possible what is never so", 0, 0, 0, 13, 10, 24 + p);
+            many(town, p + " believes what is never so", 0, 0, 0, 13, 10, 28 + p);
+            many(town, p + " believes what is always so", 64, 0, 0, 13, 28 + p);
+        }
+        many(town, "0 knows a fact where it is so", 32, 0, 20);
+        many(town, "1 where it was told that, too", 16, 0, 21);
+        many(town, "3 nowhere", 0, 0, 23);
+        town.group(0, 1);
+        town.group(1, 3);
+        town.group(2, 15);
+        many(town, "each of 0 and 1", 16, 0, 33);
+        many(town, "common in 0", 32, 0, 35);
+        many(town, "common in all", 0, 0, 37);
+        many(town, "0 together, never", 0, 0, 0, 13, 10, 38);
+        many(town, "0 and 1 together", 32, 0, 39);
+        many(town, "once it is cried it is common", 64, 0, 0, 37, 14);
+        Due.is("so at all", town.fails(5), Due.NONE);
+        many(town, "1 does not know all, but at the last", 63, 0, 21, 1, 21, 2, 21, 11, 11, 10);
+        Due.is("the last", town.fails(5), 63);
+    }
+
+    private static void sixtyFourWorldsAndClaims() {
+        Due.says("Terms 1: WORLDS (at most 64); BELIEVES, CLASHED");
+        TownKnows town = crowd();
+        Due.is("lie", town.lie(3, 0), 0);
+        Due.is("not clashed, before anyone is asked what it believes", town.clashed(0, 3), 0);
+        Due.is("undo", town.undo(), 11);
+        many(town, "3 believes nothing yet", 0, 0, 31);
+        Due.is("lie", town.lie(3, 0), 0);
+        many(town, "3 believes it", 64, 0, 31);
+        many(town, "1 believes it but where it knows better", 48, 0, 29);
+        Due.is("not clashed for 3", town.clashed(0, 3), 0);
+        Due.is("nor for 0, which knows it", town.clashed(0, 0), 0);
+        town.sign(0, 10);
+        Due.is("the contrary", town.lie(3, 0), 1);
+        many(town, "3 believes that now", 0, 0, 31);
+        many(town, "1 believes it where it knows it alone", 16, 0, 29);
+        Due.is("clashed for 3", town.clashed(0, 3), 1);
+        Due.is("not the later one", town.clashed(1, 3), 0);
+        Due.is("the later one for 1", town.clashed(1, 1), 1);
+        Due.is("not the former one", town.clashed(0, 1), 0);
     }
 }

@@ -12,6 +12,7 @@ final class EdgeTownTest {
         cutComesAgainAndAgain();
         cutJoinsWhatIsAlike();
         cutKeepsTheLeast();
+        cutLooksAgainAndAgain();
         cutDropsFirst();
         cutBehindEachAct();
         newObject();
@@ -248,6 +249,36 @@ final class EdgeTownTest {
         Due.is("told back", town.tell(1, 0, 0), 4);
         look(town, "the same", 3, 0, 0, 1, 1);
         cells(town, "1", 1, 0, 1, 0, 3);
+    }
+
+    /** What parts two worlds may be what one knows that another one knows, and so on. */
+    private static void cutLooksAgainAndAgain() {
+        Due.says("CUT: each WORLD in the CELL of the one is ALIKE to some in the CELL of the other (the most that can be"
+            + " ALIKE so)");
+        TownKnows town = new TownKnows();
+        town.begin(4, 1, 1);
+        town.see(0, 0);
+        town.go(2, 1);
+        Due.write(town, 0, 0);
+        Due.is("0 tells 3 in the hearing of 1", town.tell(0, 3, 0), 4);
+        town.go(1, 1);
+        Due.is("and again without", town.tell(0, 3, 0), 6);
+        look(town, "told never, told unheard, told in the hearing of 1", 5, 0, 0, 0, 1, 1, 1);
+        cells(town, "1 knows whether it was told in its hearing", 1, 0, 0, 2, 0, 0, 2);
+        cells(town, "2 knows nothing", 2, 0, 0, 0, 0, 0, 0);
+        cells(town, "3 knows what it was told", 3, 0, 1, 2, 0, 4, 5);
+        town.begin(3, 1, 0);
+        town.see(0, 0);
+        town.see(2, 0);
+        town.go(0, 1);
+        Due.is("2 tells 1 without 0", town.tell(2, 1, 0), 4);
+        town.go(1, 1);
+        Due.write(town, 1, 0, 21);
+        Due.is("1 tells 0 whether it knows that it is so", town.tell(1, 0, 1), 8);
+        look(town, "no two are alike", 3, 0, 0, 0, 0, 1, 1, 1, 1);
+        cells(town, "0", 0, 0, 1, 0, 1, 4, 5, 4, 7);
+        cells(town, "1", 1, 0, 1, 2, 3, 0, 1, 6, 7);
+        cells(town, "2", 2, 0, 0, 2, 2, 4, 4, 6, 6);
     }
 
     /** Where it was told can't be told from where it was not, but for that all saw it: just the one half stays. */

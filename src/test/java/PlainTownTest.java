@@ -4,6 +4,8 @@ import java.util.TreeMap;
 
 /** Long runs of calls, with fixed seeds, on the class and on PlainTown: each answer must be the same. */
 final class PlainTownTest {
+    private static final int MOST_CALLS = 512;
+    private static final int MOST_OF_A_STEP = 100;
     private static final int[] EDGES = {-1, 64, 100, Integer.MIN_VALUE, Integer.MAX_VALUE, -100001};
 
     private final Random random;
@@ -12,6 +14,8 @@ final class PlainTownTest {
     private final Map<String, Integer> met;
     private final int run;
     private int calls = 0;
+    /** Calls of the class in this run, looks too: an object has 512. */
+    private int used = 0;
     private int n = 2;
     private int m = 2;
 
@@ -22,7 +26,7 @@ final class PlainTownTest {
     }
 
     public static void main(String[] args) {
-        int runs = args.length > 0 ? Integer.parseInt(args[0]) : 40;
+        int runs = args.length > 0 ? Integer.parseInt(args[0]) : 120;
         int first = args.length > 1 ? Integer.parseInt(args[1]) : 0;
         Map<String, Integer> met = new TreeMap<>();
         for (int run = first; run < first + runs; run++) {
@@ -54,21 +58,25 @@ final class PlainTownTest {
 
     private void due(String name, String given, int got, int want) {
         calls++;
+        used++;
         met.merge(want < -99999 ? name + " " + want : name, 1, Integer::sum);
         Due.is("run " + run + " call " + calls + ": " + name + "(" + given + ")", got, want);
     }
 
     private void go() {
-        boolean crowded = run % 3 == 0;
+        boolean crowded = run % 5 == 0;
         begin(crowded);
         for (int s = 0; s < 6; s++) {
             formula(s, 1 + random.nextInt(6));
         }
         for (int s = 0; s < 4; s++) {
-            int bits = 8 << random.nextInt(3);
+            int bits = random.nextInt(5) == 0 ? 0 : 8 << random.nextInt(3);
             due("sheet", s + ", " + bits + ", 5", town.sheet(s, bits, 5), plain.sheet(s, bits, 5));
         }
-        while (calls < 1000) {
+        if (crowded) {
+            gossip();
+        }
+        while (used < MOST_CALLS - MOST_OF_A_STEP) {
             int what = random.nextInt(100);
             if (what < (crowded ? 1 : 3)) {
                 begin(crowded);
@@ -84,10 +92,24 @@ final class PlainTownTest {
                 undo();
             }
             if (random.nextInt(8) == 0) {
-                look();
+                glance();
             }
         }
         look();
+        Due.holds("run " + run + " kept to 512 calls", used <= MOST_CALLS);
+    }
+
+    /** Each sees a fact and tells others of it, so that worlds soon are many. */
+    private void gossip() {
+        for (int p = 0; p < n; p++) {
+            due("see", p + ", " + p % m, town.see(p, p % m), plain.see(p, p % m));
+            due("blank", "" + p, town.blank(p), plain.blank(p));
+            due("sign", p + ", " + p % m, town.sign(p, p % m), plain.sign(p, p % m));
+        }
+        for (int i = 0; i < 8; i++) {
+            int a = random.nextInt(n);
+            tell(a, other(a), a);
+        }
     }
 
     /** Mostly 0 to below most, seldom something beyond. */
@@ -110,8 +132,8 @@ final class PlainTownTest {
         due("begin", a + ", " + b + ", " + c, town.begin(a, b, c), plain.begin(a, b, c));
         n = plain.all(0);
         m = plain.all(1);
-        Due.is("persons", town.all(0), n);
-        Due.is("facts", town.all(1), m);
+        seen("all(0)", town.all(0), n);
+        seen("all(1)", town.all(1), m);
         for (int p = 0; p < n; p++) {
             if (random.nextInt(3) > 0) {
                 int f = random.nextInt(m);
@@ -200,7 +222,8 @@ final class PlainTownTest {
     private void act(boolean crowded) {
         int p = person();
         int s = some(6);
-        switch (crowded && random.nextInt(2) == 0 ? 5 : random.nextInt(14)) {
+        boolean liars = run % 3 == 1;
+        switch (crowded && random.nextInt(2) == 0 ? 5 : liars && random.nextInt(3) == 0 ? 8 : random.nextInt(16)) {
             case 0:
             case 1:
                 int f = some(m);
@@ -230,6 +253,8 @@ final class PlainTownTest {
                 }
                 break;
             case 11:
+            case 14:
+            case 15:
                 int g = some(3);
                 due("pact", s + ", " + g, town.pact(s, g), plain.pact(s, g));
                 break;
@@ -247,13 +272,13 @@ final class PlainTownTest {
 
     private void tell(int a, int b, int s) {
         due("tell", a + ", " + b + ", " + s, town.tell(a, b, s), plain.tell(a, b, s));
-        Due.is("run " + run + " behind call " + calls + ": worlds", town.all(2), plain.all(2));
+        seen("all(2)", town.all(2), plain.all(2));
     }
 
     private void ask() {
         int p = person();
         int s = some(6);
-        switch (random.nextInt(13)) {
+        switch (random.nextInt(15)) {
             case 0:
                 due("holds", "" + s, town.holds(s), plain.holds(s));
                 break;
@@ -305,12 +330,12 @@ final class PlainTownTest {
     }
 
     private void marks(int s) {
-        int kind = random.nextInt(4);
-        if (kind < 2) {
+        int kind = random.nextInt(5);
+        if (kind == 0) {
             for (int i = random.nextInt(10) == 0 ? 0 : 6; i < 7; i++) {
                 due("mark", "", town.mark(), plain.mark());
             }
-        } else if (kind == 2) {
+        } else if (kind < 4) {
             int mark = some(Math.max(1, plain.all(6)));
             due("then", mark + ", " + s, town.then(mark, s), plain.then(mark, s));
         } else {
@@ -353,21 +378,40 @@ final class PlainTownTest {
         }
         n = plain.all(0);
         m = plain.all(1);
-        look();
+        glance();
     }
 
-    /** The whole town, world by world. */
-    private void look() {
+    private void seen(String what, int got, int want) {
+        used++;
+        Due.is("run " + run + " behind call " + calls + ": " + what, got, want);
+    }
+
+    /** How many there are of all, and a few worlds. */
+    private void glance() {
         int what = some(8);
         due("all", "" + what, town.all(what), plain.all(what));
-        for (int i = 0; i <= 7; i++) {
-            Due.is("run " + run + " behind call " + calls + ": all(" + i + ")", town.all(i), plain.all(i));
+        for (int i = 2; i <= 7; i++) {
+            seen("all(" + i + ")", town.all(i), plain.all(i));
         }
-        for (int w = 0; w < plain.all(2); w++) {
-            for (int p = -1; p < n; p++) {
-                Due.is("run " + run + " behind call " + calls + ": world(" + w + ", " + p + ")",
-                    town.world(w, p), plain.world(w, p));
-            }
+        for (int i = 0; i < 4; i++) {
+            world(random.nextInt(plain.all(2)), random.nextInt(n + 1) - 1);
+        }
+    }
+
+    private void world(int w, int p) {
+        seen("world(" + w + ", " + p + ")", town.world(w, p), plain.world(w, p));
+    }
+
+    /** The town, world by world, as far as calls are left. */
+    private void look() {
+        for (int i = 0; i <= 7; i++) {
+            seen("all(" + i + ")", town.all(i), plain.all(i));
+        }
+        int all = plain.all(2) * (n + 1);
+        int from = random.nextInt(all);
+        for (int i = 0; i < all && used < MOST_CALLS; i++) {
+            int place = (from + i) % all;
+            world(place / (n + 1), place % (n + 1) - 1);
         }
     }
 }

@@ -82,8 +82,11 @@ final class Twin {
         for (int what = 0; what <= 6; what++) {
             seen.add(town.all(what));
         }
-        for (int w = 0; w < town.all(2); w++) {
-            for (int p = -1; p < town.all(0); p++) {
+        int persons = town.all(0);
+        int worlds = town.all(2);
+        int marks = town.all(6);
+        for (int w = 0; w < worlds; w++) {
+            for (int p = -1; p < persons; p++) {
                 seen.add(town.world(w, p));
             }
         }
@@ -95,13 +98,13 @@ final class Twin {
             seen.add(town.many(s));
             seen.add(town.fails(s));
             seen.add(town.lesson(s, 0));
-            for (int mark = 0; mark < town.all(6); mark++) {
+            for (int mark = 0; mark < marks; mark++) {
                 seen.add(town.then(mark, s));
             }
         }
         seen.add(town.binding());
         for (int claim = 0; claim < town.all(4); claim++) {
-            for (int p = 0; p < town.all(0); p++) {
+            for (int p = 0; p < persons; p++) {
                 seen.add(town.clashed(claim, p));
             }
         }
