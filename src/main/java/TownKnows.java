@@ -39,6 +39,10 @@ public final class TownKnows {
     public TownKnows() {
         now = Town.first();
         kept = new Town[MOST_KEPT];
+        // no place is ever null, so undo need not ask
+        for (int i = 0; i < MOST_KEPT; i++) {
+            kept[i] = now;
+        }
         keptCount = 0;
         keptNext = 0;
         findings = 0;

@@ -12,6 +12,8 @@ final class EdgeTownTest {
         cutComesAgainAndAgain();
         cutJoinsWhatIsAlike();
         cutKeepsTheLeast();
+        cutJoinsCells();
+        cutJoinsCellsOfThree();
         cutLooksAgainAndAgain();
         cutDropsFirst();
         cutBehindEachAct();
@@ -249,6 +251,60 @@ final class EdgeTownTest {
         Due.is("told back", town.tell(1, 0, 0), 4);
         look(town, "the same", 3, 0, 0, 1, 1);
         cells(town, "1", 1, 0, 1, 0, 3);
+    }
+
+    /**
+     * 1 told 0 without 2 and 3, and 0 told 2 of it. Then 1 tells 0 in the hearing of 3, and 0 tells it back: that
+     * changes nothing, but of what 3 could not tell apart some worlds stay where it was told back, others where it
+     * was not. So the least world's own cell does not have them all.
+     */
+    private static void cutJoinsCells() {
+        Due.says("CUT: what was in one CELL with one of them is in one with it");
+        TownKnows town = new TownKnows();
+        town.begin(4, 1, 0);
+        town.see(1, 0);
+        town.go(2, 1);
+        town.go(3, 1);
+        Due.write(town, 0, 0);
+        Due.is("1 tells 0", town.tell(1, 0, 0), 4);
+        town.go(2, 0);
+        Due.is("0 tells 2", town.tell(0, 2, 0), 6);
+        town.go(2, 1);
+        town.go(3, 0);
+        Due.is("1 tells 0 in the hearing of 3", town.tell(1, 0, 0), 10);
+        Due.is("0 tells it back", town.tell(0, 1, 0), 10);
+        look(town, "as it was", 4, 0, 0, 0, 0, 0, 1, 1, 1, 1, 1);
+        cells(town, "0", 0, 0, 1, 2, 3, 4, 0, 6, 7, 8, 9);
+        cells(town, "1", 1, 0, 1, 2, 3, 4, 5, 6, 7, 8, 9);
+        cells(town, "2", 2, 0, 0, 0, 3, 3, 0, 0, 0, 8, 8);
+        cells(town, "3", 3, 0, 1, 0, 0, 1, 0, 1, 0, 0, 1);
+    }
+
+    /** All hear the last telling: three worlds where it was told stay, two of them in one cell of 2 by others alone. */
+    private static void cutJoinsCellsOfThree() {
+        Due.says("CUT: what was in one CELL with one of them is in one with it");
+        TownKnows town = new TownKnows();
+        town.begin(3, 1, 0);
+        town.see(0, 0);
+        town.see(1, 0);
+        town.go(0, 2);
+        Due.write(town, 0, 0);
+        Due.is("1 tells 2 whether it is so", town.tell(1, 2, 0), 4);
+        town.go(0, 0);
+        town.go(2, 1);
+        Due.write(town, 0, 0, 22);
+        Due.is("1 tells 0 whether 2 knows that it is so", town.tell(1, 0, 0), 6);
+        town.go(1, 1);
+        town.go(2, 0);
+        Due.write(town, 0, 0, 20, 22);
+        Due.is("2 tells 0 whether 2 knows that 0 knows", town.tell(2, 0, 0), 12);
+        town.go(1, 0);
+        Due.write(town, 0, 0, 22);
+        Due.is("0 tells 1 whether 2 knows that it is so", town.tell(0, 1, 0), 3);
+        look(town, "of those not so two stay", 1, 0, 0, 1);
+        cells(town, "0", 0, 0, 0, 2);
+        cells(town, "1", 1, 0, 1, 2);
+        cells(town, "2", 2, 0, 1, 0);
     }
 
     /** What parts two worlds may be what one knows that another one knows, and so on. */
